@@ -347,6 +347,8 @@ public final class PromisesTest {
         dueThrow("read", IllegalStateException.class, x::read);
         due("failure(1) of the next read", x.failure(1), 0);
         readInto(x, "G1=0;", 1);
+        failInto(x, "G", 1, 1);
+        readInto(x, "G1=0;", 1);
         due("failure(0) behind a right read", x.failure(0), 0);
         due("failure(1) behind a right read", x.failure(1), HarbourText.NONE);
     }
@@ -416,6 +418,7 @@ public final class PromisesTest {
             dueThrow("reach(" + n[0] + ", " + n[1] + ", " + n[2] + ")", IllegalArgumentException.class,
                     () -> x.reach(n[0], n[1], n[2]));
         }
+        due("a channel of the least depth", harbour("C1=0,1,0,1;", 1).reach(0, 1, 0), 1);
         due("the longest way", longestWay().reach(0, 0, 15), 1);
         due("the longest way back", longestWay().reach(0, 15, 0), 1);
         due("the longest road", longestWay().reach(1, 15, 0), 1);
@@ -471,6 +474,7 @@ public final class PromisesTest {
         dueBad("L1=0,1,1,1;", 1, "0");
         dueBad("L1=2,1,1,1;R1=2,3;", 2, "0");
         dueBad("L1=2,1,1,1;C1=2,3,1,30;", 2, "");
+        dueBad("C1=2,3,1,30;L1=2,1,1,1;", 2, "");
         dueBad("L1=3,1,1,30;C1=2,3,1,1;", 2, "");
         dueBad("Y1=2,0;G1=3;", 2, "1 11");
         dueBad("Y1=2,0;G1=3;R1=2,3;", 3, "");
@@ -529,6 +533,9 @@ public final class PromisesTest {
         due("compare with what was read before", x.compare(), 0);
         due("printed again", printed(x), want);
         due("piece 0 as read", x.piece(0, 1), 3);
+        HarbourText edges = harbour("L0=1,1,1,1;C99=0,1,1,1;R99=0,1;G0=1;", 4);
+        due("the last name of a kind before the first of the next", printed(edges),
+                "C99=0,1,1,1;L0=1,1,1,1;R99=0,1;G0=1;");
         String text = fullText();
         HarbourText full = harbour(text, 32);
         due("the longest print", full.print(), 500);
